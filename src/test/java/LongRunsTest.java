@@ -88,7 +88,8 @@ public final class LongRunsTest {
     }
 
     private int upTo(int most) {
-        return random.nextInt(20) == 0 ? (random.nextBoolean() ? -1 : most + 1) : random.nextInt(most + 1);
+        int[] wrong = {-1, most + 1, Integer.MIN_VALUE, Integer.MAX_VALUE};
+        return random.nextInt(20) == 0 ? wrong[random.nextInt(4)] : random.nextInt(most + 1);
     }
 
     private long row(int n) {
