@@ -318,7 +318,7 @@ public final class NailThreads {
 
     /** The ring of nails, without anything wound on it. */
     private static final class Ring {
-        /** By the steps on from the one to the other, which way round is the same. */
+        /** By the steps from the one to the other: those by the longer way round too. */
         private static final int[] LENGTHS = {0, 5, 10, 14, 17, 19, 20, 19, 17, 14, 10, 5};
 
         static int stepsOn(int nail, int steps) {
@@ -331,7 +331,8 @@ public final class NailThreads {
         }
 
         static int lengthBetween(int one, int other) {
-            return LENGTHS[Math.floorMod(other - one, NAILS)];
+            int steps = one < other ? other - one : one - other;
+            return steps < LENGTHS.length ? LENGTHS[steps] : 0;
         }
 
         static boolean doCross(int a, int b, int c, int d) {
@@ -579,18 +580,13 @@ public final class NailThreads {
             return crosses;
         }
 
-        private int countedCrossings() {
-            int crossings = 0;
-            for (int i = 0; i < size; i++) {
-                crossings += crossingFrom(i + 1, i);
-            }
-            return crossings;
-        }
-
         /** The stretch that was wound last, wherever it lies. */
         int lastOf(int thread) {
+            if (!hasThread(thread)) {
+                return NOWHERE;
+            }
             for (int i = 0; i < size; i++) {
-                if (threadAt(i) == thread && placeAt(i) == stretchesOf(thread) - 1) {
+                if (threadAt(i) == thread && placeAt(i) == counts[thread] - 1) {
                     return i;
                 }
             }
@@ -611,13 +607,13 @@ public final class NailThreads {
                 return 0;
             }
             int from = nails[thread];
-            int crossed = crossedBetween(from, nail);
+            int newly = crossed(0, ALL, from, nail);
             lying[size] = packed(thread, from, nail, counts[thread]);
             size++;
             counts[thread]++;
             nails[thread] = nail;
-            crosses += crossed;
-            return crossed;
+            crosses += newly;
+            return newly;
         }
 
         /** How many stretches the new ones cross. */
@@ -635,7 +631,7 @@ public final class NailThreads {
 
         boolean mayUnwind(int thread) {
             int last = lastOf(thread);
-            return last != NOWHERE && crossingFrom(last + 1, last) == 0;
+            return last != NOWHERE && crossed(last + 1, ALL, fromAt(last), toAt(last)) == 0;
         }
 
         int unwindLast(int thread) {
@@ -643,7 +639,7 @@ public final class NailThreads {
             if (!hasThread(thread) || last == NOWHERE) {
                 return NOWHERE;
             }
-            crosses -= crossingFrom(0, last);
+            crosses -= crossed(0, ALL, fromAt(last), toAt(last));
             nails[thread] = fromAt(last);
             counts[thread]--;
             for (int i = last + 1; i < size; i++) {
@@ -671,7 +667,10 @@ public final class NailThreads {
             int gone = size - left;
             size = left;
             counts[thread] = 0;
-            crosses = countedCrossings();
+            crosses = 0;
+            for (int i = 0; i < size; i++) {
+                crosses += crossed(i + 1, ALL, fromAt(i), toAt(i));
+            }
             return gone;
         }
 
