@@ -399,5 +399,6 @@ public final class EdgesOfLooksTest {
         c.due("98 are not 99", x.judge(1, 7099), 0);
         x.wind(1, 4);
         c.due("d-e crosses none: 99", x.judge(1, 7099), NONE);
+        c.due("threads 9 and 9 are not parts", x.judge(1, 6993), 0);
     }
 }
